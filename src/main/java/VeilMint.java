@@ -1181,7 +1181,8 @@ public final class VeilMint {
             field.sqr(t[0], t[1]);
             field.mul(t[1], t[0], t[0]);
             field.mul(p.y, t[0], t[0]);
-            to[at] = (byte) (isOdd(t[0]) ? 3 : 2);
+            field.leave(t[0], t[0]);
+            to[at] = (byte) (2 + (t[0][0] & 1));
             field.mul(p.x, t[1], t[1]);
             field.leave(t[1], t[1]);
             Modulus.write(t[1], to, at + 1, SCALAR);
@@ -1398,8 +1399,7 @@ public final class VeilMint {
         final Row answer = new Row(MOST_AT_ONCE * ELEMENT + PROOF);
         private final Hash hash = new Hash();
         private final Curve curve = new Curve();
-        private final byte[] orderBytes = Curve.hex(Q);
-        private final Modulus order = new Modulus(orderBytes, 0, SCALAR);
+        private final Modulus order = new Modulus(Curve.hex(Q), 0, SCALAR);
         private final Row message = new Row(300);
         private final Row padded = new Row(600);
         private final byte[] first = new byte[H3_SIZE];
@@ -1424,7 +1424,8 @@ public final class VeilMint {
         }
 
         private boolean isScalar(byte[] from, int at) {
-            return Row.isLess(from, at, orderBytes, 0, SCALAR);
+            Modulus.read(from, at, SCALAR, numbers[0]);
+            return order.isLess(numbers[0], order.n);
         }
 
         Key makeKey(byte[] from) {
@@ -1561,18 +1562,21 @@ public final class VeilMint {
             hashToGroup(token);
             curve.spread(Curve.PAIR, p);
             curve.combine(Curve.PAIR, 1, key.secret, 0, p);
-            makeOutput(token);
-            return Row.same(output, 0, token, INPUT, H3_SIZE);
+            return makeOutput(token) && Row.same(output, 0, token, INPUT, H3_SIZE);
         }
 
-        private void makeOutput(byte[] input) {
-            curve.encode(p, five, 0);
+        /** The OUTPUT of an INPUT whose evaluated point is p. */
+        private boolean makeOutput(byte[] input) {
+            if (!curve.encode(p, five, 0)) {
+                return false;
+            }
             message.clear();
             message.putNumber(INPUT, 2);
             message.putAll(input, 0, INPUT);
             putElement(five, 0);
             message.putText("Finalize");
             hash.h3(message, output);
+            return true;
         }
 
         private void putElement(byte[] from, int at) {

@@ -327,7 +327,9 @@ final class Model {
         if (tape.length + 20 > 1200) {
             return NONE;
         }
-        tape = join(tape, bytes(a, 4), bytes(b, 4), bytes(c, 4), bytes(d, 4), bytes(e, 4));
+        for (int one : new int[] {a, b, c, d, e}) {
+            tape = join(tape, bytes(one & 0xffffffffL, 4));
+        }
         return tape.length;
     }
 

@@ -874,7 +874,6 @@ public final class VeilMint {
                 for (int j = 1; j < limbs; j++) {
                     t[j - 1] = t[j] + x * b[j] + m * n[j];
                 }
-                t[limbs - 1] = 0;
                 t[0] += carry;
             }
             // With 74 limbs the sums pass 2^63, but never 2^64: so they are taken without sign.

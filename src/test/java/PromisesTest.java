@@ -1,4 +1,5 @@
 import java.math.BigInteger;
+import java.util.List;
 import java.util.Random;
 
 /** Promise by promise: ordinary inputs, the edges that the document names, wrong inputs, and the order of refusals. */
@@ -203,6 +204,7 @@ final class PromisesTest {
         for (BigInteger wrong : new BigInteger[] {BigInteger.ZERO, n, n.add(ONE), ONE.shiftLeft(528).subtract(ONE)}) {
             pair.due(pair.put(Rsa.tape(n, 3, wrong, 0, 66)).key(2), VeilMint.REFUSED);
         }
+        pair.due(pair.put(Rsa.tape(SALTED.n, 3, BigInteger.ZERO, 48, 100)).key(2), VeilMint.REFUSED);
         pair.due(pair.put(Rsa.tape(n.subtract(ONE), 3, d, 0, 66)).key(2), VeilMint.REFUSED);
         pair.due(pair.put(Rsa.tape(n.shiftRight(8).setBit(0), 3, ONE, 0, 66)).key(2), VeilMint.REFUSED);
         pair.due(pair.put(SMALL.tape(), new byte[1]).key(2), VeilMint.REFUSED);
@@ -486,6 +488,18 @@ final class PromisesTest {
         pair.due(pair.put(faulty, Model.bytes(BigInteger.ZERO, 66)).issue(), 66);
         pair.retire(0);
         pair.due(pair.put(head, new byte[SALTED.len]).issue(), VeilMint.NO_KEY);
+        // Moduli of ones alone, where sums of products are the largest that there are.
+        for (int len : new int[] {66, 70, 129, 255, 256}) {
+            Pair ones = new Pair("12, LEN " + len + " of ones");
+            BigInteger all = ONE.shiftLeft(8 * len).subtract(ONE);
+            ones.put(Rsa.tape(all, 3, all.subtract(BigInteger.TWO), 0, len)).key(2);
+            BigInteger[] numbers = {all.subtract(ONE), all.subtract(BigInteger.TWO), all.shiftRight(1), ONE,
+                new BigInteger(8 * len - 1, MAKE)};
+            for (BigInteger x : numbers) {
+                ones.put(head(ones, 0), Model.bytes(x, len)).issue();
+            }
+            ones.due(ones.put(head(ones, 0), Model.bytes(numbers[0], len)).issue(), len);
+        }
         // A modulus of as many bits as its limbs could just hold, and the largest one.
         for (int bits : new int[] {560, 553, 2048, 2041, 2016, 784}) {
             Pair wide = new Pair("12, " + bits + " bits");
@@ -528,9 +542,35 @@ final class PromisesTest {
         pair.due(pair.put(head, element(1), element(2), Pair.scalar(Q)).issueMany(2), VeilMint.BAD);
         pair.retire(0);
         pair.due(pair.put(head, eight, r).issueMany(8), VeilMint.NO_KEY);
+        sameTwice();
+    }
+
+    /** One ELEMENT twice, with factors that begin with the same digit: then a sum is of a point and itself. */
+    private static void sameTwice() {
+        Pair pair = new Pair("13, one twice");
+        pair.secretKey(ONE);
+        int found = 0;
+        for (long k = 2; found < 3; k++) {
+            Model.Spot c = Model.times(BigInteger.valueOf(k), Model.G);
+            List<BigInteger> weights = Model.weights(Model.G, List.of(c, c), List.of(c, c));
+            if (weights.get(0).shiftRight(380).equals(weights.get(1).shiftRight(380))) {
+                found++;
+                pair.due(pair.put(head(pair, 0), element(k), element(k), Pair.scalar(k)).issueMany(2), 2 * 49 + 96);
+            }
+        }
     }
 
     // ---- 14 and 15: finalize, finalizeMany ----
+
+    /** Calls of which nothing may be left that a later one could take for its own. */
+    private static void disturb(Pair pair) {
+        pair.put(head(pair, 0), element(31), element(32), element(33), Pair.scalar(34)).issueMany(3);
+        pair.put(head(pair, 0), element(35), Pair.scalar(36)).issue();
+        pair.put(token(pair, 0, Pair.nonce(37, 38)), new byte[1]).redeem();
+        pair.put(Pair.bent(token(pair, 0, Pair.nonce(39, 40)), 100)).redeem();
+        pair.secretKey(BigInteger.valueOf(41));
+        pair.digest();
+    }
 
     private static void finalizeOfType1() {
         Pair pair = new Pair("14, TYPE 1");
@@ -561,6 +601,7 @@ final class PromisesTest {
         pair.due(pair.put(Model.slice(answer, 0, 49), new byte[96]).finalize(0), VeilMint.BAD);
         pair.due(pair.put(Model.slice(answer, 0, 49), Pair.scalar(Q), Pair.scalar(Q)).finalize(0), VeilMint.BAD);
         pair.due(pair.count(3), 2);
+        disturb(pair);
         pair.retire(0);
         pair.due(pair.put(answer).finalize(0), 146);
         pair.due(pair.count(3), 1);
@@ -568,6 +609,28 @@ final class PromisesTest {
         pair.due(pair.put(new byte[3]).finalize(0), THROWN);
         pair.due(pair.count(8), 0);
         scalarsAboveQ();
+        sumsThatMeet();
+    }
+
+    /** With these, sums of points meet the same point, its negative, or none on their way. */
+    private static void sumsThatMeet() {
+        BigInteger[] secrets = {ONE, BigInteger.TWO, BigInteger.valueOf(16), Q.subtract(ONE), Q.subtract(BigInteger.TWO),
+            Q.shiftRight(1), Q.add(ONE).shiftRight(1)};
+        Pair pair = null;
+        for (int i = 0; i < secrets.length; i++) {
+            pair = i % 6 == 0 ? new Pair("14, sums that meet") : pair;
+            int key = pair.secretKey(secrets[i]);
+            for (BigInteger r : new BigInteger[] {ONE, BigInteger.valueOf(5), Q.subtract(ONE), secrets[i]}) {
+                int asking = pair.put(Pair.nonce(i, 9), DIGEST, Pair.scalar(r)).request(key);
+                byte[] request = pair.left();
+                pair.put(request, Pair.scalar(r)).issue();
+                pair.due(pair.put(pair.left()).finalize(asking), 146);
+                pair.due(pair.put(head(pair, key), element(1), Model.element(Model.times(secrets[i], Model.G)),
+                    element(1), Pair.scalar(r)).issueMany(3), 3 * 49 + 96);
+                pair.due(pair.put(head(pair, key), element(1), Pair.bent(element(1), 0), Pair.scalar(r)).issueMany(2),
+                    2 * 49 + 96);
+            }
+        }
     }
 
     /** A PROOF of numbers that are not below Q is none, though they would be right modulo Q. */
@@ -591,6 +654,7 @@ final class PromisesTest {
             pair.put(pair.left()).issue();
             byte[] answer = pair.left();
             BigInteger z = Model.number(answer);
+            pair.put(Pair.random(MAKE, 64 + rsa.salt), rsa.blind(MAKE)).request(key);
             pair.due(pair.put(Model.slice(answer, 0, rsa.len - 1)).finalize(asking), VeilMint.REFUSED);
             pair.due(pair.put(answer, new byte[1]).finalize(asking), VeilMint.REFUSED);
             pair.due(pair.put(new byte[145]).finalize(asking), VeilMint.REFUSED);
@@ -630,6 +694,9 @@ final class PromisesTest {
             pair.due(pair.count(8), 0);
         }
         pair.due(pair.put(answer).finalizeMany(1, 8), VeilMint.REFUSED);
+        pair.due(pair.put(new byte[2 * 49 + 96]).finalizeMany(7, 2), VeilMint.REFUSED);
+        pair.due(pair.put(new byte[2 * 49 + 96]).finalizeMany(6, 2), VeilMint.BAD);
+        pair.due(pair.put(new byte[49 + 96]).finalizeMany(9, 1), VeilMint.REFUSED);
         pair.due(pair.put(answer).finalizeMany(8, 2), VeilMint.REFUSED);
         pair.due(pair.put(answer).finalizeMany(9, 1), VeilMint.REFUSED);
         pair.due(pair.put(answer).finalizeMany(0, 7), VeilMint.REFUSED);
@@ -640,6 +707,7 @@ final class PromisesTest {
             Model.slice(answer, 98, answer.length - 98));
         pair.due(pair.put(swapped).finalizeMany(0, 8), VeilMint.BAD);
         pair.due(pair.count(3), 10);
+        disturb(pair);
         pair.due(pair.put(answer).finalizeMany(0, 8), 8 * 146);
         pair.due(pair.count(3), 2);
         for (int i = 0; i < 8; i++) {
@@ -722,6 +790,11 @@ final class PromisesTest {
                 pair.due(pair.put(input, Model.bytes(s.add(rsa.n), rsa.len)).redeem(), VeilMint.BAD);
             }
             wrongCodes(pair, rsa, input);
+            // A redeemer that knows nothing of how the token came to be, and one that has seen another salt since.
+            Pair stranger = new Pair("16, a stranger");
+            stranger.rsaKey(rsa);
+            stranger.due(stranger.put(token).redeem(), 0);
+            pair.put(Pair.random(MAKE, 64 + rsa.salt), rsa.blind(MAKE)).request(key);
             pair.due(pair.put(token).redeem(), 0);
             pair.due(pair.put(token).redeem(), VeilMint.SPENT);
             pair.retire(key);

@@ -691,8 +691,8 @@ public final class VeilMint {
         static final long MASK = (1L << BITS) - 1;
 
         final int limbs;
-        /** The modulus itself; R and R^2 modulo it; and a plain 1, to come back from Montgomery's form. */
-        final long[] n;
+        /** The modulus itself; R (which is 1) and R^2 modulo it; and a plain 1, to come back from Montgomery's form. */
+        private final long[] n;
         final long[] one;
         private final long[] square;
         private final long[] unit;
@@ -785,13 +785,18 @@ public final class VeilMint {
             return true;
         }
 
-        final boolean isLess(long[] a, long[] b) {
+        private boolean isLess(long[] a, long[] b) {
             for (int i = limbs - 1; i >= 0; i--) {
                 if (a[i] != b[i]) {
                     return a[i] < b[i];
                 }
             }
             return false;
+        }
+
+        /** Whether a plain number is below the modulus. */
+        final boolean isAbove(long[] plain) {
+            return isLess(plain, n);
         }
 
         final void enter(long[] plain, long[] to) {
@@ -802,7 +807,7 @@ public final class VeilMint {
             mul(a, unit, plain);
         }
 
-        /** A number of more bytes than the limbs hold: what is beyond them counts R times as much. */
+        /** A number of more bytes than the limbs (whose bits are whole bytes) hold: what is beyond counts R times. */
         final void enterWide(byte[] from, int at, int size, long[] to) {
             int low = Math.min(size, BITS * limbs / 8);
             read(from, at, size - low, spare[0]);
@@ -1156,7 +1161,7 @@ public final class VeilMint {
                 return false;
             }
             Modulus.read(from, at + 1, SCALAR, to.x);
-            if (!field.isLess(to.x, field.n)) {
+            if (!field.isAbove(to.x)) {
                 return false;
             }
             field.enter(to.x, to.x);
@@ -1227,7 +1232,7 @@ public final class VeilMint {
             cubic(p.x, s);
             field.raise(s, root, 0, SCALAR, p.y);
             if (!isSquareOf(s, p.y)) {
-                // Then y is a root of - s, and so of the other x, which is v x, no second root need be drawn.
+                // Then y is a root of - s, from which that of the other x, v x, comes without drawing a second one.
                 field.mul(p.x, v, p.x);
                 field.mul(p.y, v, p.y);
                 field.mul(p.y, u, p.y);
@@ -1424,7 +1429,7 @@ public final class VeilMint {
 
         private boolean isScalar(byte[] from, int at) {
             Modulus.read(from, at, SCALAR, numbers[0]);
-            return order.isLess(numbers[0], order.n);
+            return order.isAbove(numbers[0]);
         }
 
         Key makeKey(byte[] from) {
@@ -1679,7 +1684,7 @@ public final class VeilMint {
         private final byte[] piece = new byte[H3_SIZE];
         private final byte[] encoded = new byte[MOST];
         private final byte[] opened = new byte[MOST];
-        private final long[][] numbers = new long[4][8 * MOST / Modulus.BITS + 1];
+        private final long[][] numbers = new long[3][8 * MOST / Modulus.BITS + 1];
 
         BlindRsa() {
         }
@@ -1710,14 +1715,19 @@ public final class VeilMint {
             return new Key(RSA, len, from[size - 1], shown, secret, new Modulus(from, 0, len));
         }
 
+        /** Reads a number of LEN bytes: whether it is below N. */
+        private static boolean readBelow(Key key, byte[] from, int at, long[] to) {
+            Modulus.read(from, at, key.size, to);
+            return key.modulus.isAbove(to);
+        }
+
         /** From a salt and a blind: whether blinded and inverse could be made. */
         boolean blind(Key key, byte[] input, byte[] from, int at) {
             Modulus n = key.modulus;
             long[] r = numbers[0];
             long[] back = numbers[1];
             long[] x = numbers[2];
-            Modulus.read(from, at + key.salt, key.size, r);
-            if (!n.isLess(r, n.n)) {
+            if (!readBelow(key, from, at + key.salt, r)) {
                 return false;
             }
             n.enter(r, r);
@@ -1745,8 +1755,7 @@ public final class VeilMint {
             Modulus n = key.modulus;
             long[] x = numbers[0];
             long[] y = numbers[1];
-            Modulus.read(from, at, key.size, x);
-            if (!n.isLess(x, n.n)) {
+            if (!readBelow(key, from, at, x)) {
                 return false;
             }
             n.enter(x, x);
@@ -1763,8 +1772,7 @@ public final class VeilMint {
             Modulus n = key.modulus;
             long[] x = numbers[0];
             long[] back = numbers[1];
-            Modulus.read(from, 0, key.size, x);
-            if (!n.isLess(x, n.n)) {
+            if (!readBelow(key, from, 0, x)) {
                 return false;
             }
             Modulus.read(asking.inverse, 0, key.size, back);
@@ -1782,8 +1790,7 @@ public final class VeilMint {
         private boolean isRight(Key key, byte[] input, byte[] from, int at) {
             Modulus n = key.modulus;
             long[] x = numbers[0];
-            Modulus.read(from, at, key.size, x);
-            if (!n.isLess(x, n.n)) {
+            if (!readBelow(key, from, at, x)) {
                 return false;
             }
             n.enter(x, x);

@@ -233,6 +233,10 @@ final class PromisesTest {
         pair.due(pair.secretKey(ONE), VeilMint.FULL);
         pair.due(pair.count(0), 6);
         pair.due(pair.count(1), 5);
+        pair.due(pair.look(5, 2), 2);
+        pair.due(pair.look(6, 2), THROWN);
+        pair.due(pair.retire(6), THROWN);
+        pair.due(pair.put(NONCE, DIGEST, Pair.scalar(1)).request(6), VeilMint.NO_KEY);
     }
 
     // ---- 8 to 10 ----
@@ -365,6 +369,11 @@ final class PromisesTest {
         pair.due(pair.put(NONCE, DIGEST).request(2), VeilMint.NO_KEY);
         pair.due(pair.count(2), 60);
         pair.due(pair.count(8), 0);
+        pair.due(pair.put(new byte[66]).finalize(60), THROWN);
+        pair.due(pair.put(new byte[66]).finalize(59), VeilMint.BAD);
+        pair.due(pair.put(new byte[66]).finalizeMany(60, 1), THROWN);
+        pair.due(pair.put(new byte[66]).finalizeMany(53, 8), THROWN);
+        pair.due(pair.put(new byte[66]).finalizeMany(52, 8), VeilMint.REFUSED);
     }
 
     // ---- 12 and 13: issue, issueMany ----

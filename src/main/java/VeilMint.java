@@ -1832,7 +1832,7 @@ public final class VeilMint {
             encoded[key.size - 1] = (byte) 0xbc;
         }
 
-        /** The code has one bit less than N. */
+        /** The code has one bit less than N: so a byte ahead of it becomes 0. */
         private void clearTop(Key key) {
             int keep = 0;
             for (int bits = key.shown[0] & 255; bits > 1; bits >>= 1) {
@@ -1841,11 +1841,10 @@ public final class VeilMint {
             encoded[0] &= keep;
         }
 
-        /** MGF1 of the mark, as long as what stands ahead of it, which may begin behind a byte 0. */
+        /** MGF1 of the mark, as long as what stands ahead of it; behind a byte where the code has one less than N. */
         private void makeMask(Key key) {
             int ahead = (key.shown[0] & 255) == 1 ? 1 : 0;
             int many = key.size - H3_SIZE - 1 - ahead;
-            mask[0] = 0;
             for (int i = 0; i * H3_SIZE < many; i++) {
                 message.clear();
                 message.putAll(mark, 0, H3_SIZE);

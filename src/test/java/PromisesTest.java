@@ -37,6 +37,7 @@ final class PromisesTest {
         finalizeMany();
         redeemOfType1();
         redeemOfType2();
+        lengthsOfMasks();
         slots();
         fullDisk();
         powerGoes();
@@ -808,6 +809,21 @@ final class PromisesTest {
             pair.due(pair.put(token).redeem(), VeilMint.SPENT);
             pair.retire(key);
             pair.due(pair.put(token).redeem(), VeilMint.NO_KEY);
+        }
+    }
+
+    /** The mask is made of pieces of 48 bytes: here the last piece gives one byte, two, or all. */
+    private static void lengthsOfMasks() {
+        for (int len : new int[] {97, 98, 99, 144, 145, 146, 147, 193, 194}) {
+            for (int first = 1; first <= 2; first++) {
+                int salt = len < 100 ? 0 : 48;
+                Rsa rsa = Rsa.makePrime(BigInteger.valueOf(first).shiftLeft(8 * len - 8), 65537, salt);
+                Pair pair = new Pair("16, LEN " + len + " from " + first);
+                byte[] token = pair.signedToken(pair.rsaKey(rsa), rsa, NONCE, len);
+                pair.due(token.length, 98 + len);
+                pair.due(pair.put(Pair.bent(token, 97 + len)).redeem(), VeilMint.BAD);
+                pair.due(pair.put(token).redeem(), 0);
+            }
         }
     }
 

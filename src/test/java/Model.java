@@ -5,7 +5,9 @@ import java.security.MessageDigest;
 import java.security.NoSuchAlgorithmException;
 import java.util.ArrayList;
 import java.util.Arrays;
+import java.util.HashMap;
 import java.util.List;
+import java.util.Map;
 import java.util.NoSuchElementException;
 
 /** The document once more, with BigInteger and MessageDigest: what VeilMint answers is held against it. */
@@ -115,7 +117,18 @@ final class Model {
         return new Spot(x, slope.multiply(a.x.subtract(x)).subtract(a.y).mod(P));
     }
 
+    private record Product(BigInteger k, Spot a) { }
+
+    /** Tests ask for the same products over and over, and they take long. */
+    private static final Map<Product, Spot> PRODUCTS = new HashMap<>();
+
     static Spot times(BigInteger k, Spot a) {
+        return PRODUCTS.computeIfAbsent(new Product(k, a), Model::reckon);
+    }
+
+    private static Spot reckon(Product product) {
+        BigInteger k = product.k;
+        Spot a = product.a;
         Spot sum = null;
         for (int i = k.bitLength() - 1; i >= 0; i--) {
             sum = plus(sum, sum);

@@ -12,6 +12,7 @@ import java.util.function.IntSupplier;
 final class Pair {
     /** Stands for NoSuchElementException among the answers. */
     static final int THROWN = 1 << 20;
+    static final byte[] DIGEST = Model.h2(new byte[0]);
     static int wrong = 0;
     static int calls = 0;
     /** How often each call came to each kind of answer: to see that a test reaches what it is for. */
@@ -106,6 +107,10 @@ final class Pair {
         if (got != want) {
             complain(log.isEmpty() ? "new" : log.get(log.size() - 1), "is not as written, " + want);
         }
+    }
+
+    void due(boolean got, boolean want) {
+        due(got ? 1 : 0, want ? 1 : 0);
     }
 
     int feed(int a, int b, int c, int d, int e) {
@@ -204,8 +209,33 @@ final class Pair {
         return Model.number(Model.slice(from, at, 4)).intValue();
     }
 
+    /** OUT as it is due. */
     byte[] left() {
         return m.out.clone();
+    }
+
+    /** OUT as it is. */
+    byte[] seen() {
+        byte[] all = new byte[x.outs()];
+        for (int i = 0; i < all.length; i++) {
+            all[i] = (byte) x.out(i);
+        }
+        return all;
+    }
+
+    /** All that can be seen but the TAPE, and that seeing does not change. */
+    String state() {
+        StringBuilder all = new StringBuilder(Arrays.toString(seen()));
+        for (int what = 0; what <= 9; what++) {
+            all.append(' ').append(what == 8 ? 0 : x.count(what));
+        }
+        for (int i = 0; i < 4096; i++) {
+            all.append(' ').append(x.disk(i));
+        }
+        for (int key = 0; key < x.count(0); key++) {
+            all.append(' ').append(x.look(key, 2)).append(x.look(key, 3)).append(x.look(key, 4));
+        }
+        return all.toString();
     }
 
     int secretKey(BigInteger secret) {
@@ -231,6 +261,41 @@ final class Pair {
         int asking = put(nonce, random(random, 32), random(random, rsa.salt), rsa.blind(random)).request(key);
         put(left()).issue();
         put(left()).finalize(asking);
+        return left();
+    }
+
+    /** What a REQUEST for this KEY begins with. */
+    byte[] head(int key) {
+        Model.Key k = m.keys.get(key);
+        return new byte[] {0, (byte) k.type, k.id[31]};
+    }
+
+    byte[] input(int key, byte[] nonce) {
+        Model.Key k = m.keys.get(key);
+        return Model.join(Model.bytes(k.type, 2), nonce, DIGEST, k.id);
+    }
+
+    /** A TOKEN of a KEY of either TYPE, made by the issuer's own secret. */
+    byte[] ownToken(int key, byte[] nonce) {
+        Model.Key k = m.keys.get(key);
+        byte[] input = input(key, nonce);
+        if (k.type == 1) {
+            return Model.join(input, Model.output(input, Model.times(k.secret, Model.hashToGroup(input))));
+        }
+        BigInteger code = Model.number(Model.encode(input, new byte[k.salt], k.n.bitLength() - 1));
+        return Model.join(input, Model.bytes(code.modPow(k.secret, k.n), k.len));
+    }
+
+    /** Puts what an ASKING of a KEY of either TYPE needs on the TAPE; its salt is of zeros. */
+    Pair wish(int key, byte[] nonce, BigInteger blind) {
+        Model.Key k = m.keys.get(key);
+        return put(nonce, DIGEST, new byte[k.salt], Model.bytes(blind, k.len));
+    }
+
+    /** The ANSWER to the REQUEST that OUT is, by a SECRET if it is of TYPE 1. */
+    byte[] answerTo(long secret) {
+        byte[] request = left();
+        put(request, request[1] == 1 ? scalar(secret) : new byte[0]).issue();
         return left();
     }
 

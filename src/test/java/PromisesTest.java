@@ -13,7 +13,7 @@ final class PromisesTest {
     private static final Rsa SMALL = Rsa.make(528, 3, 0, MAKE);
     private static final Rsa SALTED = Rsa.make(800, 65537, 48, MAKE);
     private static final byte[] NONCE = Pair.nonce(0x80000070L, 5);
-    private static final byte[] DIGEST = Model.h2(new byte[0]);
+    private static final byte[] DIGEST = Pair.DIGEST;
 
     public static void main(String[] args) {
         newObject();
@@ -379,72 +379,39 @@ final class PromisesTest {
 
     // ---- 12 and 13: issue, issueMany ----
 
-    /** What a REQUEST for this KEY begins with. */
-    private static byte[] head(Pair pair, int key) {
-        Model.Key k = pair.m.keys.get(key);
-        return new byte[] {0, (byte) k.type, k.id[31]};
-    }
-
-    private static byte[] element(long k) {
-        return Model.element(Model.times(BigInteger.valueOf(k), Model.G));
-    }
-
-    /** The least x from here on that no point has. */
-    private static byte[] noElement() {
-        BigInteger x = BigInteger.TEN;
-        while (Model.isSquare(Model.side(x))) {
-            x = x.add(ONE);
-        }
-        return Model.join(new byte[] {2}, Model.bytes(x, 48));
-    }
-
-    /** Bytes that are no ELEMENT; but for number 1: that is the other point of the same x. */
-    private static byte[][] wrongElements() {
-        byte[] good = element(5);
-        byte[][] all = {noElement(), Pair.bent(good, 0), good.clone(), good.clone(), good.clone(), good.clone(),
-            new byte[49], Model.join(new byte[] {2}, Model.bytes(Model.P, 48)),
-            Model.join(new byte[] {3}, Model.bytes(Model.P.add(BigInteger.valueOf(5)), 48))};
-        all[2][0] = 0;
-        all[3][0] = 1;
-        all[4][0] = 4;
-        all[5][0] = (byte) 0x82;
-        return all;
-    }
-
     private static void issueOfType1() {
         Pair pair = new Pair("12, TYPE 1");
         pair.due(pair.issue(), VeilMint.REFUSED);
         pair.due(pair.put(new byte[] {0, 1, 7}).issue(), VeilMint.NO_KEY);
         pair.secretKey(new BigInteger(383, MAKE));
-        byte[] head = head(pair, 0);
+        byte[] head = pair.head(0);
         byte[] r = Pair.scalar(new BigInteger(383, MAKE));
-        pair.due(pair.put(head, element(5), r).issue(), 145);
+        pair.due(pair.put(head, Elements.of(5), r).issue(), 145);
         pair.due(pair.count(8), 0);
-        pair.due(pair.put(head, Pair.bent(element(5), 0), r).issue(), 145);
-        pair.due(pair.put(head, element(1), Pair.scalar(1)).issue(), 145);
+        pair.due(pair.put(head, Pair.bent(Elements.of(5), 0), r).issue(), 145);
+        pair.due(pair.put(head, Elements.of(1), Pair.scalar(1)).issue(), 145);
         pair.due(pair.put(head, pair.m.keys.get(0).shown, Pair.scalar(Q.subtract(ONE))).issue(), 145);
-        byte[][] wrong = wrongElements();
-        for (int i = 0; i < wrong.length; i++) {
-            pair.due(pair.put(head, wrong[i], r).issue(), i == 1 ? 145 : VeilMint.BAD);
+        for (byte[] wrong : Elements.wrong()) {
+            pair.due(pair.put(head, wrong, r).issue(), VeilMint.BAD);
         }
         for (BigInteger secret : new BigInteger[] {BigInteger.ZERO, Q, ONE.shiftLeft(384).subtract(ONE)}) {
-            pair.due(pair.put(head, element(5), Pair.scalar(secret)).issue(), VeilMint.BAD);
+            pair.due(pair.put(head, Elements.of(5), Pair.scalar(secret)).issue(), VeilMint.BAD);
         }
-        pair.due(pair.put(head, element(5)).issue(), VeilMint.REFUSED);
-        pair.due(pair.put(head, element(5), r, new byte[1]).issue(), VeilMint.REFUSED);
+        pair.due(pair.put(head, Elements.of(5)).issue(), VeilMint.REFUSED);
+        pair.due(pair.put(head, Elements.of(5), r, new byte[1]).issue(), VeilMint.REFUSED);
         pair.due(pair.put(head).issue(), VeilMint.REFUSED);
         for (int size = 0; size < 3; size++) {
             pair.due(pair.put(Model.slice(head, 0, size)).issue(), VeilMint.REFUSED);
         }
         byte[] other = Pair.bent(head, 2);
-        pair.due(pair.put(other, element(5), r).issue(), VeilMint.NO_KEY);
+        pair.due(pair.put(other, Elements.of(5), r).issue(), VeilMint.NO_KEY);
         pair.due(pair.put(other).issue(), VeilMint.NO_KEY);
         for (byte[] type : new byte[][] {{0, 0}, {0, 3}, {1, 1}, {1, 2}, {-1, 1}, {0, -127}}) {
-            pair.due(pair.put(type, new byte[] {head[2]}, element(5), r).issue(), VeilMint.REFUSED);
+            pair.due(pair.put(type, new byte[] {head[2]}, Elements.of(5), r).issue(), VeilMint.REFUSED);
         }
-        pair.due(pair.put(new byte[] {0, 2, head[2]}, element(5), r).issue(), VeilMint.NO_KEY);
+        pair.due(pair.put(new byte[] {0, 2, head[2]}, Elements.of(5), r).issue(), VeilMint.NO_KEY);
         pair.retire(0);
-        pair.due(pair.put(head, element(5), r).issue(), VeilMint.NO_KEY);
+        pair.due(pair.put(head, Elements.of(5), r).issue(), VeilMint.NO_KEY);
         pair.due(pair.put(head).issue(), VeilMint.NO_KEY);
         firstOfSeveral();
     }
@@ -456,7 +423,7 @@ final class PromisesTest {
         byte[] last = new byte[256];
         int second = 0;
         for (int k = 1; second == 0; k++) {
-            int end = Model.h2(element(k))[31] & 255;
+            int end = Model.h2(Elements.of(k))[31] & 255;
             if (last[end] != 0) {
                 first = last[end];
                 second = k;
@@ -466,12 +433,12 @@ final class PromisesTest {
         pair.rsaKey(SMALL);
         pair.secretKey(BigInteger.valueOf(first));
         pair.secretKey(BigInteger.valueOf(second));
-        byte[] head = head(pair, 2);
-        Pair.check("they end alike", head[2] == head(pair, 1)[2]);
-        pair.due(pair.put(head, element(5), Pair.scalar(9)).issue(), 145);
+        byte[] head = pair.head(2);
+        Pair.check("they end alike", head[2] == pair.head(1)[2]);
+        pair.due(pair.put(head, Elements.of(5), Pair.scalar(9)).issue(), 145);
         byte[] byFirst = pair.left();
         pair.retire(1);
-        pair.due(pair.put(head, element(5), Pair.scalar(9)).issue(), 145);
+        pair.due(pair.put(head, Elements.of(5), Pair.scalar(9)).issue(), 145);
         Pair.check("another KEY", !java.util.Arrays.equals(byFirst, pair.left()));
     }
 
@@ -479,7 +446,7 @@ final class PromisesTest {
         Pair pair = new Pair("12, TYPE 2");
         pair.rsaKey(SALTED);
         pair.put(Rsa.tape(SMALL.n, 3, SMALL.d.subtract(ONE), 0, 66)).key(2);
-        byte[] head = head(pair, 0);
+        byte[] head = pair.head(0);
         BigInteger n = SALTED.n;
         for (BigInteger x : new BigInteger[] {BigInteger.ZERO, ONE, n.subtract(ONE), new BigInteger(790, MAKE)}) {
             pair.due(pair.put(head, Model.bytes(x, SALTED.len)).issue(), SALTED.len);
@@ -492,7 +459,7 @@ final class PromisesTest {
         pair.due(pair.put(head, new byte[SALTED.len - 1]).issue(), VeilMint.REFUSED);
         pair.due(pair.put(head, new byte[SALTED.len + 1]).issue(), VeilMint.REFUSED);
         pair.due(pair.put(head, new byte[SALTED.len]).issueMany(1), VeilMint.REFUSED);
-        byte[] faulty = head(pair, 1);
+        byte[] faulty = pair.head(1);
         pair.due(pair.put(faulty, Model.bytes(BigInteger.TWO, 66)).issue(), VeilMint.BAD);
         pair.due(pair.put(faulty, Model.bytes(ONE, 66)).issue(), 66);
         pair.due(pair.put(faulty, Model.bytes(BigInteger.ZERO, 66)).issue(), 66);
@@ -506,9 +473,9 @@ final class PromisesTest {
             BigInteger[] numbers = {all.subtract(ONE), all.subtract(BigInteger.TWO), all.shiftRight(1), ONE,
                 new BigInteger(8 * len - 1, MAKE)};
             for (BigInteger x : numbers) {
-                ones.put(head(ones, 0), Model.bytes(x, len)).issue();
+                ones.put(ones.head(0), Model.bytes(x, len)).issue();
             }
-            ones.due(ones.put(head(ones, 0), Model.bytes(numbers[0], len)).issue(), len);
+            ones.due(ones.put(ones.head(0), Model.bytes(numbers[0], len)).issue(), len);
         }
         // A modulus of as many bits as its limbs could just hold, and the largest one.
         for (int bits : new int[] {560, 553, 2048, 2041, 2016, 784}) {
@@ -517,7 +484,7 @@ final class PromisesTest {
             wide.rsaKey(rsa);
             for (BigInteger x : new BigInteger[] {rsa.n.subtract(ONE), rsa.n.subtract(BigInteger.TWO),
                 new BigInteger(bits - 1, MAKE)}) {
-                wide.due(wide.put(head(wide, 0), Model.bytes(x, rsa.len)).issue(), rsa.len);
+                wide.due(wide.put(wide.head(0), Model.bytes(x, rsa.len)).issue(), rsa.len);
             }
         }
     }
@@ -526,16 +493,16 @@ final class PromisesTest {
         Pair pair = new Pair("13");
         pair.due(pair.issueMany(1), VeilMint.REFUSED);
         pair.secretKey(new BigInteger(383, MAKE));
-        byte[] head = head(pair, 0);
+        byte[] head = pair.head(0);
         byte[] r = Pair.scalar(new BigInteger(383, MAKE));
         byte[] eight = new byte[0];
         for (int many = 1; many <= 8; many++) {
-            eight = Model.join(eight, element(many % 3 == 0 ? 1 : 100 + many));
+            eight = Model.join(eight, Elements.of(many % 3 == 0 ? 1 : 100 + many));
             pair.due(pair.put(head, eight, r).issueMany(many), 49 * many + 96);
             pair.due(pair.count(8), 0);
         }
-        pair.due(pair.put(head, element(2), r).issue(), 145);
-        byte[] nine = Model.join(eight, element(9));
+        pair.due(pair.put(head, Elements.of(2), r).issue(), 145);
+        byte[] nine = Model.join(eight, Elements.of(9));
         for (int many : new int[] {0, 9, -1, MIN, MAX}) {
             pair.due(pair.put(head, nine, r).issueMany(many), VeilMint.REFUSED);
             pair.due(pair.put(Pair.bent(head, 2), nine, r).issueMany(many), VeilMint.REFUSED);
@@ -547,9 +514,9 @@ final class PromisesTest {
         pair.due(pair.put(new byte[] {0, 2, head[2]}, eight, r).issueMany(8), VeilMint.REFUSED);
         pair.due(pair.put(new byte[] {1, 1, head[2]}, eight, r).issueMany(8), VeilMint.REFUSED);
         pair.due(pair.put(new byte[] {0, 1}).issueMany(1), VeilMint.REFUSED);
-        pair.due(pair.put(head, element(1), noElement(), r).issueMany(2), VeilMint.BAD);
-        pair.due(pair.put(head, element(1), element(2), Pair.scalar(0)).issueMany(2), VeilMint.BAD);
-        pair.due(pair.put(head, element(1), element(2), Pair.scalar(Q)).issueMany(2), VeilMint.BAD);
+        pair.due(pair.put(head, Elements.of(1), Elements.none(), r).issueMany(2), VeilMint.BAD);
+        pair.due(pair.put(head, Elements.of(1), Elements.of(2), Pair.scalar(0)).issueMany(2), VeilMint.BAD);
+        pair.due(pair.put(head, Elements.of(1), Elements.of(2), Pair.scalar(Q)).issueMany(2), VeilMint.BAD);
         pair.retire(0);
         pair.due(pair.put(head, eight, r).issueMany(8), VeilMint.NO_KEY);
         sameTwice();
@@ -565,7 +532,8 @@ final class PromisesTest {
             List<BigInteger> weights = Model.weights(Model.G, List.of(c, c), List.of(c, c));
             if (weights.get(0).shiftRight(380).equals(weights.get(1).shiftRight(380))) {
                 found++;
-                pair.due(pair.put(head(pair, 0), element(k), element(k), Pair.scalar(k)).issueMany(2), 2 * 49 + 96);
+                byte[] twice = Model.join(Elements.of(k), Elements.of(k));
+                pair.due(pair.put(pair.head(0), twice, Pair.scalar(k)).issueMany(2), 2 * 49 + 96);
             }
         }
     }
@@ -574,10 +542,10 @@ final class PromisesTest {
 
     /** Calls of which nothing may be left that a later one could take for its own. */
     private static void disturb(Pair pair) {
-        pair.put(head(pair, 0), element(31), element(32), element(33), Pair.scalar(34)).issueMany(3);
-        pair.put(head(pair, 0), element(35), Pair.scalar(36)).issue();
-        pair.put(token(pair, 0, Pair.nonce(37, 38)), new byte[1]).redeem();
-        pair.put(Pair.bent(token(pair, 0, Pair.nonce(39, 40)), 100)).redeem();
+        pair.put(pair.head(0), Elements.of(31), Elements.of(32), Elements.of(33), Pair.scalar(34)).issueMany(3);
+        pair.put(pair.head(0), Elements.of(35), Pair.scalar(36)).issue();
+        pair.put(pair.ownToken(0, Pair.nonce(37, 38)), new byte[1]).redeem();
+        pair.put(Pair.bent(pair.ownToken(0, Pair.nonce(39, 40)), 100)).redeem();
         pair.secretKey(BigInteger.valueOf(41));
         pair.digest();
     }
@@ -601,7 +569,7 @@ final class PromisesTest {
             pair.due(pair.put(Model.slice(answer, 0, size)).finalize(0), VeilMint.REFUSED);
         }
         pair.due(pair.put(answer, new byte[1]).finalize(0), VeilMint.REFUSED);
-        for (byte[] element : wrongElements()) {
+        for (byte[] element : Elements.wrong()) {
             pair.due(pair.put(element, Model.slice(answer, 49, 96)).finalize(0), VeilMint.BAD);
         }
         for (int at : new int[] {0, 48, 49, 96, 97, 144}) {
@@ -624,8 +592,8 @@ final class PromisesTest {
 
     /** With these, sums of points meet the same point, its negative, or none on their way. */
     private static void sumsThatMeet() {
-        BigInteger[] secrets = {ONE, BigInteger.TWO, BigInteger.valueOf(16), Q.subtract(ONE), Q.subtract(BigInteger.TWO),
-            Q.shiftRight(1), Q.add(ONE).shiftRight(1)};
+        BigInteger[] secrets = {ONE, BigInteger.TWO, BigInteger.valueOf(16), Q.subtract(ONE),
+            Q.subtract(BigInteger.TWO), Q.shiftRight(1), Q.add(ONE).shiftRight(1)};
         Pair pair = null;
         for (int i = 0; i < secrets.length; i++) {
             pair = i % 6 == 0 ? new Pair("14, sums that meet") : pair;
@@ -635,10 +603,10 @@ final class PromisesTest {
                 byte[] request = pair.left();
                 pair.put(request, Pair.scalar(r)).issue();
                 pair.due(pair.put(pair.left()).finalize(asking), 146);
-                pair.due(pair.put(head(pair, key), element(1), Model.element(Model.times(secrets[i], Model.G)),
-                    element(1), Pair.scalar(r)).issueMany(3), 3 * 49 + 96);
-                pair.due(pair.put(head(pair, key), element(1), Pair.bent(element(1), 0), Pair.scalar(r)).issueMany(2),
-                    2 * 49 + 96);
+                pair.due(pair.put(pair.head(key), Elements.of(1), Model.element(Model.times(secrets[i], Model.G)),
+                    Elements.of(1), Pair.scalar(r)).issueMany(3), 3 * 49 + 96);
+                byte[] opposites = Model.join(Elements.of(1), Pair.bent(Elements.of(1), 0));
+                pair.due(pair.put(pair.head(key), opposites, Pair.scalar(r)).issueMany(2), 2 * 49 + 96);
             }
         }
     }
@@ -688,7 +656,7 @@ final class PromisesTest {
         pair.secretKey(new BigInteger(383, MAKE));
         pair.secretKey(BigInteger.TWO);
         pair.rsaKey(SMALL);
-        byte[] asked = head(pair, 0);
+        byte[] asked = pair.head(0);
         for (int i = 0; i < 8; i++) {
             pair.put(Pair.nonce(i, 2), DIGEST, Pair.scalar(new BigInteger(383, MAKE))).request(0);
             asked = Model.join(asked, Model.slice(pair.left(), 3, 49));
@@ -733,13 +701,6 @@ final class PromisesTest {
 
     // ---- 16 to 20: redeem, the DISK, power ----
 
-    /** A TOKEN of TYPE 1 made by the issuer's own secret. */
-    private static byte[] token(Pair pair, int key, byte[] nonce) {
-        Model.Key k = pair.m.keys.get(key);
-        byte[] input = Model.join(Model.bytes(1, 2), nonce, DIGEST, k.id);
-        return Model.join(input, Model.output(input, Model.times(k.secret, Model.hashToGroup(input))));
-    }
-
     private static void redeemOfType1() {
         Pair pair = new Pair("16, TYPE 1");
         pair.due(pair.redeem(), VeilMint.REFUSED);
@@ -747,7 +708,7 @@ final class PromisesTest {
         pair.due(pair.put(new byte[98]).redeem(), VeilMint.NO_KEY);
         pair.secretKey(new BigInteger(383, MAKE));
         pair.rsaKey(SMALL);
-        byte[] token = token(pair, 0, NONCE);
+        byte[] token = pair.ownToken(0, NONCE);
         for (int size : new int[] {98, 145}) {
             pair.due(pair.put(Model.slice(token, 0, size)).redeem(), VeilMint.REFUSED);
         }
@@ -773,7 +734,7 @@ final class PromisesTest {
         pair.due(pair.put(Model.slice(token, 0, 98)).redeem(), VeilMint.NO_KEY);
         pair.secretKey(pair.m.keys.get(0).secret);
         pair.due(pair.put(token).redeem(), VeilMint.SPENT);
-        pair.due(pair.put(token(pair, 2, Pair.nonce(1, 7))).redeem(), 0);
+        pair.due(pair.put(pair.ownToken(2, Pair.nonce(1, 7))).redeem(), 0);
     }
 
     private static void redeemOfType2() {
@@ -799,7 +760,9 @@ final class PromisesTest {
             if (s.add(rsa.n).bitLength() <= 8 * rsa.len) {
                 pair.due(pair.put(input, Model.bytes(s.add(rsa.n), rsa.len)).redeem(), VeilMint.BAD);
             }
-            wrongCodes(pair, rsa, input);
+            for (BigInteger code : rsa.wrongCodes(input)) {
+                pair.due(pair.put(input, rsa.signed(code)).redeem(), VeilMint.BAD);
+            }
             // A redeemer that knows nothing of how the token came to be, and one that has seen another salt since.
             Pair stranger = new Pair("16, a stranger");
             stranger.rsaKey(rsa);
@@ -827,27 +790,6 @@ final class PromisesTest {
         }
     }
 
-    /** Codes that are signed well, but that EMSA-PSS-VERIFY does not take. */
-    private static void wrongCodes(Pair pair, Rsa rsa, byte[] input) {
-        int bits = rsa.n.bitLength() - 1;
-        byte[] code = Model.encode(input, Pair.random(MAKE, rsa.salt), bits);
-        int[] bent = {0, code.length - 49 - rsa.salt - 1, code.length - 49 - rsa.salt - 2, code.length - 49,
-            code.length - 2, code.length - 1};
-        for (int at : bent) {
-            signAndRedeem(pair, rsa, input, Model.number(Pair.bent(code, at)), VeilMint.BAD);
-        }
-        // A bit too many, where N leaves room for it.
-        signAndRedeem(pair, rsa, input, Model.number(code).setBit(bits), VeilMint.BAD);
-        byte[] otherSalt = Model.encode(input, new byte[rsa.salt == 0 ? 1 : 47], bits);
-        signAndRedeem(pair, rsa, input, Model.number(otherSalt), VeilMint.BAD);
-    }
-
-    private static void signAndRedeem(Pair pair, Rsa rsa, byte[] input, BigInteger code, int due) {
-        if (code.compareTo(rsa.n) < 0) {
-            pair.due(pair.put(input, Model.bytes(code.modPow(rsa.d, rsa.n), rsa.len)).redeem(), due);
-        }
-    }
-
     private static void slots() {
         Pair pair = new Pair("16, the slots");
         pair.secretKey(ONE);
@@ -855,7 +797,7 @@ final class PromisesTest {
         long[] firsts = {0xffffffffL, 0x80000000L, 111, 223, 111, 0, 13, 14, 13, 110};
         int[] due = {31, 16, 111, 0, 1, 2, 13, 14, 15, 110};
         for (int i = 0; i < firsts.length; i++) {
-            byte[] token = token(pair, 0, Pair.nonce(firsts[i], i));
+            byte[] token = pair.ownToken(0, Pair.nonce(firsts[i], i));
             pair.due(pair.put(token).redeem(), 0);
             int at = 512 * (due[i] / 14) + 36 * (due[i] % 14);
             pair.due(pair.disk(at + 3), 1);
@@ -875,12 +817,12 @@ final class PromisesTest {
         Pair pair = new Pair("16, a full disk");
         pair.secretKey(ONE);
         for (int i = 0; i < 112; i++) {
-            pair.due(pair.put(token(pair, 0, Pair.nonce(50, i))).redeem(), 0);
+            pair.due(pair.put(pair.ownToken(0, Pair.nonce(50, i))).redeem(), 0);
         }
-        byte[] one = token(pair, 0, Pair.nonce(50, 112));
+        byte[] one = pair.ownToken(0, Pair.nonce(50, 112));
         pair.due(pair.put(one).redeem(), VeilMint.FULL);
         pair.due(pair.put(Pair.bent(one, 145)).redeem(), VeilMint.BAD);
-        pair.due(pair.put(token(pair, 0, Pair.nonce(50, 111))).redeem(), VeilMint.SPENT);
+        pair.due(pair.put(pair.ownToken(0, Pair.nonce(50, 111))).redeem(), VeilMint.SPENT);
         pair.cut(0);
         pair.due(pair.put(one).redeem(), VeilMint.FULL);
         pair.due(pair.count(6), 0);
@@ -894,7 +836,7 @@ final class PromisesTest {
         pair.secretKey(ONE);
         byte[][] tokens = new byte[5][];
         for (int i = 0; i < 5; i++) {
-            tokens[i] = token(pair, 0, Pair.nonce(i, 3));
+            tokens[i] = pair.ownToken(0, Pair.nonce(i, 3));
         }
         for (int wrong : new int[] {-1, 1001, MIN, MAX}) {
             Pair.check("no such cut", !pair.cut(wrong));

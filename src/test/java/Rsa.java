@@ -1,4 +1,6 @@
 import java.math.BigInteger;
+import java.util.ArrayList;
+import java.util.List;
 import java.util.Random;
 
 /** The parts of a KEY of TYPE 2. */
@@ -57,5 +59,31 @@ final class Rsa {
 
     byte[] blind(Random random) {
         return Model.bytes(new BigInteger(n.bitLength() - 1, random).setBit(1), len);
+    }
+
+    byte[] signed(BigInteger code) {
+        return Model.bytes(code.modPow(d, n), len);
+    }
+
+    /** Codes below N of this INPUT that EMSA-PSS-VERIFY does not take. */
+    List<BigInteger> wrongCodes(byte[] input) {
+        int bits = n.bitLength() - 1;
+        byte[] code = Model.encode(input, new byte[salt], bits);
+        int mark = code.length - 49;
+        int one = mark - salt - 1;
+        List<BigInteger> all = new ArrayList<>();
+        // A bit of the zeros (the first and the last of them), of the 1, of the mark (likewise), of the trailer.
+        for (int at : new int[] {0, one - 1, one, mark, mark + 47, mark + 48}) {
+            all.add(Model.number(Pair.bent(code, at)));
+        }
+        // A bit too many.
+        all.add(Model.number(code).setBit(bits));
+        for (int size : salt == 0 ? new int[] {1} : new int[] {0, 47, 49}) {
+            if (code.length >= size + 50) {
+                all.add(Model.number(Model.encode(input, new byte[size], bits)));
+            }
+        }
+        all.removeIf(each -> each.compareTo(n) >= 0);
+        return all;
     }
 }

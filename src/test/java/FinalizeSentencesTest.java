@@ -1,4 +1,6 @@
 import java.math.BigInteger;
+import java.util.ArrayList;
+import java.util.List;
 
 /** Promises 14 and 15: finalize and finalizeMany, sentence by sentence. */
 final class FinalizeSentencesTest extends Sentences {
@@ -35,6 +37,34 @@ final class FinalizeSentencesTest extends Sentences {
 
     private static BigInteger numberAt(byte[] answer, int at) {
         return Model.number(Model.slice(answer, at, 48));
+    }
+
+    /**
+     * An ANSWER to these blinded ELEMENTS whose evaluated ones begin with other bytes, and whose PROOF is right for
+     * just these bytes: only that they are no ELEMENTS can be held against it.
+     */
+    private static byte[] provedWith(List<byte[]> asked, int[] firsts) {
+        List<Model.Spot> c = new ArrayList<>();
+        List<Model.Spot> d = new ArrayList<>();
+        List<byte[]> told = new ArrayList<>();
+        byte[] all = new byte[0];
+        for (int i = 0; i < firsts.length; i++) {
+            c.add(Model.spot(asked.get(i)));
+            d.add(Model.times(SECRET, c.get(i)));
+            told.add(Elements.of(firsts[i], d.get(i).x()));
+            all = Model.join(all, told.get(i));
+        }
+        Model.Spot a = Model.times(SECRET, Model.G);
+        List<BigInteger> weights = Model.weightsOfBytes(a, asked, told);
+        Model.Spot m = Model.sum(weights, c);
+        BigInteger r = BigInteger.valueOf(17);
+        BigInteger challenge = Model.challenge(a, m, Model.sum(weights, d), Model.times(r, Model.G), Model.times(r, m));
+        return Model.join(all, Pair.scalar(challenge), Pair.scalar(r.subtract(challenge.multiply(SECRET)).mod(Q)));
+    }
+
+    /** What an ELEMENT evaluated of this one begins with. */
+    private static int firstOf(byte[] asked) {
+        return Model.element(Model.times(SECRET, Model.spot(asked)))[0];
     }
 
     @Sentence(of = "Promise 14", says = "Uses the TAPE up:")
@@ -128,12 +158,19 @@ final class FinalizeSentencesTest extends Sentences {
         for (byte[] wrong : Elements.wrong()) {
             pair.due(pair.put(wrong, Model.slice(answer, 49, 96)).finalize(0), BAD);
         }
-        for (int first : new int[] {0, 1, 4, 0x82, 0x83}) {
-            byte[] bent = answer.clone();
-            bent[0] = (byte) first;
-            pair.due(pair.put(bent).finalize(0), BAD);
-        }
         pair.due(pair.put(answer).finalize(0), 146);
+        boolean[] seen = new boolean[2];
+        for (int asking = 1; asking <= 6; asking++) {
+            pair.wish(0, NONCE, BigInteger.valueOf(asking)).request(0);
+            List<byte[]> asked = List.of(Model.slice(pair.seen(), 3, 49));
+            int right = firstOf(asked.get(0));
+            seen[right - 2] = true;
+            for (int first : new int[] {0, 1, 4, 5, 0x82, 0x83, 0xfe, 0xff, 5 - right}) {
+                pair.due(pair.put(provedWith(asked, new int[] {first})).finalize(asking), BAD);
+            }
+            pair.due(pair.put(provedWith(asked, new int[] {right})).finalize(asking), 146);
+        }
+        Pair.check("even and odd ones were there", seen[0] && seen[1]);
     }
 
     @Sentence(of = "Promise 14", says = "a PROOF that is not right;")
@@ -392,6 +429,19 @@ final class FinalizeSentencesTest extends Sentences {
         byte[] swapped = Model.join(Model.slice(answer, 49, 49), Model.slice(answer, 0, 49),
             Model.slice(answer, 98, 390));
         pair.due(pair.put(swapped).finalizeMany(0, 8), BAD);
+        List<byte[]> asked = new ArrayList<>();
+        int[] firsts = new int[8];
+        for (int i = 0; i < 8; i++) {
+            asked.add(Model.element(Model.times(BigInteger.valueOf(3 + i), Model.hashToGroup(
+                pair.input(0, Pair.nonce(i, 8))))));
+            firsts[i] = firstOf(asked.get(i));
+        }
+        for (int i = 0; i < 8; i++) {
+            firsts[i] += 128;
+            pair.due(pair.put(provedWith(asked, firsts)).finalizeMany(0, 8), BAD);
+            firsts[i] -= 128;
+        }
+        sameBytes("the ANSWER itself", provedWith(asked, firsts), answer);
         pair.due(pair.count(3), 8);
         pair.due(pair.put(answer).finalizeMany(0, 8), 1168);
         pair.due(pair.count(3), 0);

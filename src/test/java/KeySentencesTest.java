@@ -112,10 +112,14 @@ final class KeySentencesTest extends Sentences {
         BigInteger n = PLAIN.n;
         pair.due(rsaKey(pair, n.subtract(ONE), 3, ONE, 0), REFUSED);
         pair.due(rsaKey(pair, ONE.shiftLeft(520).subtract(ONE), 3, ONE, 0), REFUSED);
-        pair.due(rsaKey(pair, n, 2, ONE, 0), REFUSED);
-        pair.due(rsaKey(pair, n, 65538, ONE, 0), REFUSED);
-        pair.due(rsaKey(pair, n, 3, ONE, 1), REFUSED);
-        pair.due(rsaKey(pair, n, 3, ONE, 48), REFUSED);
+        for (int e : new int[] {0, 1, 2, 4, 65536, 65538, 65539}) {
+            pair.due(rsaKey(pair, n, e, ONE, 0), REFUSED);
+        }
+        for (int salt : new int[] {1, 47, 48, 49, 255}) {
+            pair.due(rsaKey(pair, n, 3, ONE, salt), REFUSED);
+        }
+        pair.due(pair.put(Rsa.tape(modulus(99, 255), 3, ONE, 48, 99)).key(2), REFUSED);
+        pair.due(pair.put(Rsa.tape(SALTED.n, 3, ONE, 47, 100)).key(2), REFUSED);
         pair.due(pair.count(0), 0);
         pair.due(pair.secretKey(ONE), 0);
         pair.due(pair.secretKey(Q.subtract(ONE)), 1);

@@ -193,10 +193,18 @@ final class Model {
     }
 
     static byte[] long49(Spot a) {
-        return join(bytes(49, 2), element(a));
+        return long49(element(a));
+    }
+
+    private static byte[] long49(byte[] element) {
+        return join(bytes(49, 2), element);
     }
 
     static List<BigInteger> weights(Spot a, List<Spot> c, List<Spot> d) {
+        return weightsOfBytes(a, c.stream().map(Model::element).toList(), d.stream().map(Model::element).toList());
+    }
+
+    static List<BigInteger> weightsOfBytes(Spot a, List<byte[]> c, List<byte[]> d) {
         byte[] tag = join(text("Seed-"), CONTEXT);
         byte[] seed = h3(join(long49(a), bytes(tag.length, 2), tag));
         List<BigInteger> all = new ArrayList<>();

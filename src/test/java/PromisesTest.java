@@ -465,6 +465,7 @@ final class PromisesTest {
         pair.due(pair.put(faulty, Model.bytes(BigInteger.ZERO, 66)).issue(), 66);
         pair.retire(0);
         pair.due(pair.put(head, new byte[SALTED.len]).issue(), VeilMint.NO_KEY);
+        squareModulus();
         // Moduli of ones alone, where sums of products are the largest that there are.
         for (int len : new int[] {66, 70, 129, 255, 256}) {
             Pair ones = new Pair("12, LEN " + len + " of ones");
@@ -487,6 +488,19 @@ final class PromisesTest {
                 wide.due(wide.put(wide.head(0), Model.bytes(x, rsa.len)).issue(), rsa.len);
             }
         }
+    }
+
+    /** There are numbers other than 0 then whose powers are 0. */
+    private static void squareModulus() {
+        BigInteger prime = ONE.shiftLeft(263).add(ONE.shiftLeft(262)).nextProbablePrime();
+        Pair pair = new Pair("12, a square");
+        BigInteger n = prime.multiply(prime);
+        pair.put(Rsa.tape(n, 3, BigInteger.TWO, 0, 66)).key(2);
+        for (BigInteger x : new BigInteger[] {prime, n.subtract(prime), prime.shiftLeft(1)}) {
+            pair.due(pair.put(pair.head(0), Model.bytes(x, 66)).issue(), VeilMint.BAD);
+            pair.due(pair.put(NONCE, DIGEST, Model.bytes(x, 66)).request(0), VeilMint.BAD);
+        }
+        pair.due(pair.put(pair.head(0), new byte[66]).issue(), 66);
     }
 
     private static void issueMany() {

@@ -152,6 +152,10 @@ final class RedeemSentencesTest extends Sentences {
                     pair.due(pair.put(input, Model.bytes(one, last - 97)).redeem(), BAD);
                 }
             }
+            if (key == 3) {
+                BigInteger more = LOW.n.add(Model.number(Model.slice(token, 98, 66)));
+                pair.due(pair.put(input, Model.bytes(more, 66)).redeem(), BAD);
+            }
             pair.due(pair.count(9), key);
             pair.due(pair.put(token).redeem(), 0);
         }
@@ -188,15 +192,19 @@ final class RedeemSentencesTest extends Sentences {
     @Sentence(of = "Promise 16", says = "FULL: no SLOT is free.")
     static void redeemFull(Pair pair) {
         pair.rsaKey(PLAIN);
-        for (int i = 0; i < 111; i++) {
-            pair.due(pair.put(pair.ownToken(0, Pair.nonce(7L * i, i))).redeem(), 0);
+        for (int i = 0; i < 112; i++) {
+            if (i != 59) {
+                pair.due(pair.put(pair.ownToken(0, Pair.nonce(i, i))).redeem(), 0);
+            }
         }
+        // The one SLOT that is free, 59, is the last that is looked at from 60 on.
         byte[] last = pair.ownToken(0, Pair.nonce(60, 111));
         byte[] none = pair.ownToken(0, Pair.nonce(60, 112));
         pair.due(pair.count(4), 111);
         pair.due(pair.put(last).redeem(), 0);
+        pair.due(pair.disk(4 * 512 + 3 * 36 + 35), 111);
         pair.due(pair.count(4), 112);
-        for (int first : new int[] {0, 60, 111}) {
+        for (int first : new int[] {0, 59, 60, 111}) {
             pair.due(pair.put(pair.ownToken(0, Pair.nonce(first, 112))).redeem(), FULL);
         }
         pair.due(pair.put(last).redeem(), SPENT);

@@ -108,7 +108,8 @@ final class SpentSentencesTest extends Sentences {
     @Sentence(of = "Terms 5", says = "then in the next one, and so on, 111 behind 0:")
     static void nextSlots(Pair pair) {
         pair.rsaKey(PLAIN);
-        // The second number is the SLOT: next ones, across the end of a BLOCK, and round from 111 to 0.
+        // The second number is the SLOT: next ones, across the end of a BLOCK, and round. The words are read so that 0
+        // comes behind 111: "on" and "the next one" leave no other way to go round.
         int[][] run = {{13, 13}, {13, 14}, {13, 15}, {12, 12}, {12, 16}, {110, 110}, {110, 111}, {110, 0}, {111, 1},
             {111, 2}, {0, 3}, {223, 4}, {4, 5}};
         for (int i = 0; i < run.length; i++) {
@@ -129,13 +130,22 @@ final class SpentSentencesTest extends Sentences {
             pair.due(pair.put(pair.ownToken(0, Pair.nonce(100, i))).redeem(), SPENT);
         }
         pair.due(pair.count(5), 20);
-        // All 32 bytes must be the same: the first free SLOT is behind all of those.
+        // All 32 bytes must be the same: else it goes on to the first free SLOT behind all of those.
         spend(pair, Pair.nonce(100, 20), 8);
         spend(pair, Pair.nonce(212, 0), 9);
         byte[] other = Pair.nonce(100, 0);
         other[4] = 1;
         spend(pair, other, 10);
         spend(pair, Pair.nonce(11, 0), 11);
+        // Once round: 87 is the last SLOT that is looked at from 88 on, whether it is free or has it.
+        for (int slot = 12; slot < 100; slot++) {
+            if (slot != 87) {
+                spend(pair, Pair.nonce(slot, 0), slot);
+            }
+        }
+        byte[] last = Pair.nonce(88, 1);
+        spend(pair, last, 87);
+        pair.due(pair.put(pair.ownToken(0, last)).redeem(), SPENT);
     }
 
     @Sentence(of = "Terms 5", says = "To spend it that free SLOT is written, with its whole BLOCK, by one WRITE.")
